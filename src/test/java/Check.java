@@ -2,6 +2,7 @@
 final class Check {
     interface Setup { Hearingpay make(); }
     interface Call { Object on(Hearingpay x); }
+    interface CallWith { Object on(Hearingpay x, int value); }
 
     private final String name;
     private int passed = 0;
@@ -35,15 +36,29 @@ final class Check {
         }
     }
 
+    void refusesEach(String what, Class<? extends RuntimeException> due, Setup setup, CallWith call, int... values) {
+        for (int value : values) {
+            refuses(what + " with " + value, due, setup, x -> call.on(x, value));
+        }
+    }
+
+    void acceptsEach(String what, Setup setup, CallWith call, int... values) {
+        for (int value : values) {
+            String answer = answer(setup.make(), x -> call.on(x, value));
+            is(what + " with " + value + " answered " + answer, answer.startsWith("throws"), false);
+        }
+    }
+
     /** All that can be asked within the 512 calls; the prices and waivers last, for asking changes them. */
     private static String snapshot(Hearingpay x) {
         StringBuilder s = new StringBuilder();
-        s.append("hour ").append(x.hour()).append(" balances ").append(x.balances());
+        int now = x.hour();
+        s.append("hour ").append(now).append(" balances ").append(x.balances());
         tellAll(s, " matter ", 12, (number, what) -> x.about(number, what));
         tellAll(s, " hearing ", 24, (number, what) -> x.hearing(number, what));
         s.append(" paid");
         for (int i = 0; i < 4; i++) {
-            for (int hour = 0; hour < 24; hour++) {
+            for (int hour = Math.max(0, now - 1); hour <= Math.min(1003, now + 12); hour++) {
                 s.append(' ').append(x.paidBy(i, hour));
             }
         }

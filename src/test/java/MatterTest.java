@@ -79,6 +79,14 @@ final class MatterTest {
         CHECK.is("the other planned one", y.hearing(3, 0), Hearingpay.DROPPED);
         CHECK.is("the one that was dropped ahead", y.hearing(2, 0), Hearingpay.DROPPED);
         CHECK.is("another matter's stays", y.hearing(4, 0), Hearingpay.PLANNED);
+        Hearingpay z = filed();
+        z.plan(0, 0, 0, 30, 1);
+        z.plan(0, 0, 0, 4, 1);
+        z.notice(1, 0);
+        z.notice(1, 1);
+        z.pass(5);
+        CHECK.is("hearing 0 is PLANNED", z.decide(0), 1);
+        CHECK.is("and DROPPED then", z.hearing(0, 0), Hearingpay.DROPPED);
     }
 
     private static void decideGivesBack() {

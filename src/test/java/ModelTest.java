@@ -1,5 +1,3 @@
-import java.util.ArrayList;
-import java.util.List;
 import java.util.Map;
 import java.util.Random;
 import java.util.TreeMap;
@@ -19,9 +17,8 @@ final class ModelTest {
 
     private final Random random;
     private final int pace;
-    private final Model model = new Model();
-    private final Hearingpay real = new Hearingpay();
-    private final List<String> calls = new ArrayList<>();
+    private final Beside beside = new Beside();
+    private final Model model = beside.model;
 
     private ModelTest(int run) {
         random = new Random(run);
@@ -36,9 +33,9 @@ final class ModelTest {
             ModelTest test = new ModelTest(run);
             boolean isRight = test.run();
             if (!isRight && ++wrong <= MOST_PRINTED) {
-                System.out.println("run " + run + ": " + test.calls);
+                System.out.println("run " + run + ": " + test.beside.calls);
             }
-            answers += test.calls.size();
+            answers += test.beside.calls.size();
             test.model.seen.forEach((what, count) -> seen.merge(what, count, Integer::sum));
         }
         for (String what : REACHED) {
@@ -182,65 +179,6 @@ final class ModelTest {
     }
 
     private boolean same(String call, int... a) {
-        String due;
-        try {
-            due = ofModel(call, a);
-        } catch (Model.Refusal e) {
-            due = "throws " + e.kind;
-        }
-        String got = Check.answer(real, x -> ofReal(call, a));
-        boolean isSame = got.equals(due);
-        calls.add(call + java.util.Arrays.toString(a) + " = " + got + (isSame ? "" : ", due is " + due));
-        return isSame;
-    }
-
-    private String ofModel(String call, int... a) {
-        switch (call) {
-            case "interpreter": return "" + model.interpreter(a[0], a[1], a[2]);
-            case "waive": return "" + model.waive(a[0], a[1] == 1);
-            case "file": return "" + model.file(a[0], a[1], a[2], a[3]);
-            case "pay": return "" + model.pay(a[0], a[1]);
-            case "decide": return "" + model.decide(a[0]);
-            case "appeal": return "" + model.appeal(a[0]);
-            case "settle": return "" + model.settle(a[0], a[1] == 1);
-            case "close": return "" + model.close(a[0]);
-            case "plan": return "" + model.plan(a[0], a[1], a[2], a[3], a[4]);
-            case "move": return "" + model.move(a[0], a[1], a[2], a[3]);
-            case "drop": return "" + model.drop(a[0]);
-            case "notice": return "" + model.notice(a[0], a[1]);
-            case "pass": return "" + model.pass(a[0]);
-            case "clash": return "" + model.clash(a[0], a[1], a[2], a[3], a[4]);
-            case "at": return "" + model.at(a[0], a[1], a[2]);
-            case "about": return "" + model.about(a[0], a[1]);
-            case "hearing": return "" + model.hearing(a[0], a[1]);
-            case "paidBy": return "" + model.paidBy(a[0], a[1]);
-            case "balances": return "" + model.balances();
-            default: return "" + model.hour();
-        }
-    }
-
-    private String ofReal(String call, int... a) {
-        switch (call) {
-            case "interpreter": return "" + real.interpreter(a[0], a[1], a[2]);
-            case "waive": return "" + real.waive(a[0], a[1] == 1);
-            case "file": return "" + real.file(a[0], a[1], a[2], a[3]);
-            case "pay": return "" + real.pay(a[0], a[1]);
-            case "decide": return "" + real.decide(a[0]);
-            case "appeal": return "" + real.appeal(a[0]);
-            case "settle": return "" + real.settle(a[0], a[1] == 1);
-            case "close": return "" + real.close(a[0]);
-            case "plan": return "" + real.plan(a[0], a[1], a[2], a[3], a[4]);
-            case "move": return "" + real.move(a[0], a[1], a[2], a[3]);
-            case "drop": return "" + real.drop(a[0]);
-            case "notice": return "" + real.notice(a[0], a[1]);
-            case "pass": return "" + real.pass(a[0]);
-            case "clash": return "" + real.clash(a[0], a[1], a[2], a[3], a[4]);
-            case "at": return "" + real.at(a[0], a[1], a[2]);
-            case "about": return "" + real.about(a[0], a[1]);
-            case "hearing": return "" + real.hearing(a[0], a[1]);
-            case "paidBy": return "" + real.paidBy(a[0], a[1]);
-            case "balances": return "" + real.balances();
-            default: return "" + real.hour();
-        }
+        return beside.same(call, a);
     }
 }
